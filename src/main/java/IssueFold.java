@@ -25,6 +25,7 @@ public final class IssueFold {
     private static final int WORKFLOW_LIMIT = 120;
     private static final int QUERY_LIMIT = 40;
     private static final int SHORTEST_RULE = 4;
+    private static final int DIGITS = 10;
     private static final int DEEPEST = 6;
 
     private final Reader workflowReader;
@@ -64,7 +65,6 @@ public final class IssueFold {
         illPlace = workflowReader.readWorkflow(law.workflow);
         workflowReader.clear();
         if (illPlace != NONE) {
-            law.workflow.clear();
             throw new IllegalArgumentException("the workflow is ill");
         }
         return law.workflow.rules;
@@ -163,7 +163,7 @@ public final class IssueFold {
     }
 
     public int query(int place) throws IllegalArgumentException {
-        finds.count = 0;
+        finds.clear();
         illPlace = NONE;
         if (!isBelow(place, PLACES)) {
             queryReader.clear();
@@ -305,27 +305,23 @@ public final class IssueFold {
 
         int readWorkflow(Workflow into) {
             at = 0;
+            boolean well = readRule(into);
+            for (int rules = 1; rules < length && well && at < length; rules++) {
+                well = readRule(into);
+            }
+            if (well) {
+                return NONE;
+            }
+            // Rules that stand before the ill place are no workflow.
             into.clear();
-            return readRules(into) ? NONE : at;
+            return at;
         }
 
         int readQuery(Code into) {
             at = 0;
-            into.size = 0;
+            into.clear();
             boolean well = length == 0 || readCondition(into, 0) && at == length;
             return well ? NONE : at;
-        }
-
-        private boolean readRules(Workflow into) {
-            if (!readRule(into)) {
-                return false;
-            }
-            for (int rules = 1; rules < length && at < length; rules++) {
-                if (!readRule(into)) {
-                    return false;
-                }
-            }
-            return true;
         }
 
         private boolean readRule(Workflow into) {
@@ -409,18 +405,17 @@ public final class IssueFold {
                 return false;
             }
             at++;
-            if (name == 'n' || name == 'o') {
-                into.add(factKind(name, END), 0);
-                return true;
-            }
-            char sign = peek();
-            int kind = factKind(name, sign);
+            int kind = factKind(name, peek());
             if (kind == NONE) {
                 return false;
             }
+            if (name == 'n' || name == 'o') {
+                into.add(kind, 0);
+                return true;
+            }
             at++;
             int value = name == 's' ? peek() - 'A' : peek() - '0';
-            if (!isBelow(value, name == 's' ? STATES : 10)) {
+            if (!isBelow(value, name == 's' ? STATES : DIGITS)) {
                 return false;
             }
             at++;
@@ -428,7 +423,7 @@ public final class IssueFold {
             return true;
         }
 
-        /** NONE if the sign can't stand behind the name. */
+        /** NONE if the sign can't stand behind the name; n and o have none, so that anything may. */
         private int factKind(char name, char sign) {
             if (name == 'n') {
                 return Code.UNOWNED;
@@ -445,12 +440,16 @@ public final class IssueFold {
             if (sign != '=') {
                 return NONE;
             }
-            switch (name) {
-                case 'p': return Code.EQUAL;
-                case 'r': return Code.ROLE;
-                case 's': return Code.STATE;
-                default: return asksQueries ? Code.OWNER : Code.ACTOR;
+            if (name == 'p') {
+                return Code.EQUAL;
             }
+            if (name == 'r') {
+                return Code.ROLE;
+            }
+            if (name == 's') {
+                return Code.STATE;
+            }
+            return asksQueries ? Code.OWNER : Code.ACTOR;
         }
 
         private boolean skip(char c) {
@@ -489,6 +488,10 @@ public final class IssueFold {
         Code(int limit) {
             kinds = new int[limit];
             values = new int[limit];
+        }
+
+        void clear() {
+            size = 0;
         }
 
         void add(int kind, int value) {
@@ -563,7 +566,7 @@ public final class IssueFold {
 
         void clear() {
             rules = 0;
-            code.size = 0;
+            code.clear();
         }
 
         /** The condition of the rule is what the code has from the start on. */
@@ -824,8 +827,11 @@ public final class IssueFold {
         private final int[] codes = new int[CODES];
         private int count;
 
-        void search(Fold fold, Code question) {
+        void clear() {
             count = 0;
+        }
+
+        void search(Fold fold, Code question) {
             for (int issue = 0; issue < CODES; issue++) {
                 if (fold.has(issue) && question.holds(0, question.size, fold.lookAt(issue))) {
                     insert(issue, fold.priorities);

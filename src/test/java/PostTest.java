@@ -12,6 +12,7 @@ public final class PostTest {
         theRestOfKnownEvents();
         lostOnes();
         crashes();
+        anyPlaceCanCrash();
         knownOfNoPlace();
         Check.end("PostTest");
     }
@@ -227,6 +228,29 @@ public final class PostTest {
         Check.due("it hears anew", x.known(0, 0, 1), 2);
         Check.due("crash again", x.crash(0), true);
         Check.due("views are 0 again", x.known(0, 0, 1), 0);
+    }
+
+    private static void anyPlaceCanCrash() {
+        for (int place = 0; place < 3; place++) {
+            IssueFold x = Use.with("A>B;");
+            for (int k = 0; k < 3; k++) {
+                x.act(k, Use.OPEN, 0, 0, k);
+            }
+            for (int from = 0; from < 3; from++) {
+                Use.pass(x, from, (from + 1) % 3);
+                Use.pass(x, from, (from + 2) % 3);
+            }
+            int time = x.clock(place);
+            Check.due("crash", x.crash(place), true);
+            for (int origin = 0; origin < 3; origin++) {
+                Check.due("view of the next", x.known(place, origin, (place + 1) % 3), 0);
+                Check.due("view of the one behind", x.known(place, origin, (place + 2) % 3), 0);
+                Check.due("known", x.known(place, origin, -1), 1);
+            }
+            Check.due("clock", x.clock(place), time);
+            Check.due("another's view", x.known((place + 1) % 3, place, place), 1);
+            Check.due("another's view", x.known((place + 2) % 3, place, place), 1);
+        }
     }
 
     private static void knownOfNoPlace() {

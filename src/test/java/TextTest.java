@@ -103,6 +103,28 @@ public final class TextTest {
         y.act(0, Use.OPEN, 0, 0, 1);
         Check.due("first state of the second text", y.issue(0, 0, 0), 1);
         Check.due("no condition is left over", y.act(0, Use.MOVE, 0, 0, 2), 1);
+
+        IssueFold z = new IssueFold();
+        Use.write(z, "A>B;A>C;A>D:n;A>E;?");
+        Check.illegalArgument("an ill one with well rules", z::compile);
+        Use.write(z, "A>B;");
+        Check.due("compile after it", z.compile(), 1);
+        z.act(0, Use.OPEN, 0, 0, 1);
+        for (int state = 2; state < 5; state++) {
+            int to = state;
+            Check.unsupported("no rule is left over", () -> z.act(0, Use.MOVE, 0, 0, to));
+        }
+
+        IssueFold w = new IssueFold();
+        for (int k = 0; k < 3; k++) {
+            Use.write(w, "A>B:" + "n&".repeat(58));
+            Check.illegalArgument("a long ill one", w::compile);
+            Check.due("its place", w.place(), 120);
+        }
+        Use.write(w, "A>B:" + "n&".repeat(56) + "!n;");
+        Check.due("a long well one", w.compile(), 1);
+        w.act(0, Use.OPEN, 0, 0, 1);
+        Check.unsupported("all of its condition counts", () -> w.act(0, Use.MOVE, 0, 0, 1));
     }
 
     private static void compileOnceOnly() {
@@ -139,6 +161,10 @@ public final class TextTest {
         Use.illWorkflow("A<B;", 1);
         Use.illWorkflow("A>G;", 2);
         Use.illWorkflow("A>0;", 2);
+        Use.illWorkflow("A>;", 2);
+        Use.illWorkflow("A>:n;", 2);
+        Use.illWorkflow(">A;", 0);
+        Use.illWorkflow("A>B;>A;", 4);
         Use.illWorkflow("A>BB;", 3);
         Use.illWorkflow("A>B,", 3);
         Use.illWorkflow("A>B;;", 4);
