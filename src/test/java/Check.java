@@ -6,6 +6,7 @@ final class Check {
 
     private static int looked = 0;
     private static int wrong = 0;
+    private static String about = "";
 
     private Check() {
     }
@@ -14,8 +15,18 @@ final class Check {
         looked++;
         if (!got.equals(want)) {
             wrong++;
-            System.out.println(what + " answered " + got + ", due is " + want);
+            System.out.println(about + what + " answered " + got + ", due is " + want);
         }
+    }
+
+    /** The test of one sentence of the document: what is wrong in it is told with the sentence's words. */
+    static void sentence(String words, Call test) {
+        about = "[" + words + "] ";
+        int before = looked;
+        String thrown = thrownBy(test);
+        due("whether the test looks at anything", looked > before, true);
+        due("what the test throws", thrown, "nothing");
+        about = "";
     }
 
     static void illegalArgument(String what, Call call) {

@@ -8,9 +8,13 @@ import java.util.TreeSet;
 /** The public face, and promise 1: a new object. */
 public final class FaceTest {
     private static final Set<String> FACE = Set.of(
-        "boolean write(char)", "int compile()", "int place()", "void role(int,int)", "void needs(int,int)",
-        "int act(int,int,int,int,int)", "int send(int,int)", "int deliver(int)", "boolean lose(int)",
-        "boolean crash(int)", "boolean ask(char)", "int query(int)", "int result(int)", "int issue(int,int,int)",
+        "boolean write(char)", "int compile() IllegalStateException IllegalArgumentException", "int place()",
+        "void role(int,int) IllegalArgumentException IllegalStateException",
+        "void needs(int,int) IllegalArgumentException IllegalStateException",
+        "int act(int,int,int,int,int) IllegalArgumentException IllegalStateException UnsupportedOperationException",
+        "int send(int,int) IllegalArgumentException IllegalStateException", "int deliver(int)", "boolean lose(int)",
+        "boolean crash(int)", "boolean ask(char)", "int query(int) IllegalArgumentException", "int result(int)",
+        "int issue(int,int,int)",
         "int event(int,int)", "int skipped(int,int)", "int known(int,int,int)", "int clock(int)", "int messages()");
 
     public static void main(String[] args) {
@@ -47,7 +51,11 @@ public final class FaceTest {
         for (int i = 0; i < m.getParameterCount(); i++) {
             text.append(i == 0 ? "" : ",").append(m.getParameterTypes()[i].getName());
         }
-        return text.append(')').toString();
+        text.append(')');
+        for (Class<?> thrown : m.getExceptionTypes()) {
+            text.append(' ').append(thrown.getSimpleName());
+        }
+        return text.toString();
     }
 
     private static void newObject() {

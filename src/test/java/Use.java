@@ -60,10 +60,10 @@ final class Use {
         Check.due("result behind the last of " + text, x.result(codes.length), IssueFold.NONE);
     }
 
-    /** A message that is sent and comes at once; there must be no other on its way. */
+    /** A message that is sent and comes at once, before all that are on their way. */
     static int pass(IssueFold x, int from, int to) {
         x.send(from, to);
-        return x.deliver(0);
+        return x.deliver(x.messages() - 1);
     }
 
     static void issueIs(IssueFold x, int place, int code, int state, int priority, int owner, int deeds) {
